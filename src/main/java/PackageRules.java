@@ -469,16 +469,17 @@ public final class PackageRules {
         }
 
         boolean hasField(long word) {
-            return isAmong(fieldWords, fieldCount, word);
+            for (int i = 0; i < fieldCount; i++) {
+                if (fieldWords[i] == word) {
+                    return true;
+                }
+            }
+            return false;
         }
 
         boolean hasMethod(long word) {
-            return isAmong(methodWords, methodCount, word);
-        }
-
-        private static boolean isAmong(long[] texts, int count, long word) {
-            for (int i = 0; i < count; i++) {
-                if (texts[i] == word) {
+            for (int i = 0; i < methodCount; i++) {
+                if (methodWords[i] == word) {
                     return true;
                 }
             }
@@ -896,7 +897,11 @@ public final class PackageRules {
         private int count;
         /** The unit that is read next: a faulty one must leave the classes as they are. */
         private Unit spare;
+        /** The classes that SUPER and INTERFACES name, NONE for those not loaded: found anew at each load, as any may change. */
+        private final int[] supers;
+        private final int[] interfaces;
         private final int[] ancestors;
+        private final long[] sliceNames;
         /** For each class the least class in its slice, NONE if it is in no slice. */
         private final int[] heads;
         private final int[] ways;
@@ -909,7 +914,10 @@ public final class PackageRules {
                 units[c] = new Unit();
             }
             spare = new Unit();
+            supers = new int[MAX_CLASSES];
+            interfaces = new int[MAX_CLASSES * Unit.MAX_INTERFACES];
             ancestors = new int[MAX_CLASSES];
+            sliceNames = new long[MAX_CLASSES];
             heads = new int[MAX_CLASSES];
             ways = new int[MAX_CLASSES];
         }
@@ -927,7 +935,7 @@ public final class PackageRules {
             Unit old = units[c];
             units[c] = spare;
             spare = old;
-            findAncestors();
+            linkParents();
             return c;
         }
 
@@ -966,13 +974,15 @@ public final class PackageRules {
             return c == NONE ? set : set | 1 << c;
         }
 
-        private void findAncestors() {
+        private void linkParents() {
             for (int c = 0; c < count; c++) {
-                int parents = with(0, superOf(c));
+                supers[c] = numberOf(units[c].superName);
+                ancestors[c] = with(0, supers[c]);
                 for (int j = 0; j < units[c].interfaceCount; j++) {
-                    parents = with(parents, interfaceOf(c, j));
+                    int i = numberOf(units[c].interfaceNames[j]);
+                    interfaces[Unit.MAX_INTERFACES * c + j] = i;
+                    ancestors[c] = with(ancestors[c], i);
                 }
-                ancestors[c] = parents;
             }
             follow(ancestors);
         }
@@ -988,12 +998,8 @@ public final class PackageRules {
             }
         }
 
-        private int superOf(int c) {
-            return numberOf(units[c].superName);
-        }
-
         private int interfaceOf(int c, int j) {
-            return numberOf(units[c].interfaceNames[j]);
+            return interfaces[Unit.MAX_INTERFACES * c + j];
         }
 
         int targetOf(int c, int i) {
@@ -1015,13 +1021,11 @@ public final class PackageRules {
             if (units[c].hasField(word)) {
                 return c;
             }
-            for (int j = 0; j < units[c].interfaceCount; j++) {
-                int t = fieldFrom(interfaceOf(c, j), word, depth + 1);
-                if (t != NONE) {
-                    return t;
-                }
+            int t = NONE;
+            for (int j = 0; j < units[c].interfaceCount && t == NONE; j++) {
+                t = fieldFrom(interfaceOf(c, j), word, depth + 1);
             }
-            return fieldFrom(superOf(c), word, depth + 1);
+            return t != NONE ? t : fieldFrom(supers[c], word, depth + 1);
         }
 
         private int methodFrom(int start, long word) {
@@ -1030,27 +1034,17 @@ public final class PackageRules {
                 if (units[c].hasMethod(word)) {
                     return c;
                 }
-                c = superOf(c);
+                c = supers[c];
             }
+            int t = NONE;
             c = start;
-            for (int i = 0; i < MAX_CLASSES && c != NONE; i++) {
-                int t = faceAmongInterfaces(c, word, 0);
-                if (t != NONE) {
-                    return t;
+            for (int i = 0; i < MAX_CLASSES && c != NONE && t == NONE; i++) {
+                for (int j = 0; j < units[c].interfaceCount && t == NONE; j++) {
+                    t = faceFrom(interfaceOf(c, j), word, 0);
                 }
-                c = superOf(c);
+                c = supers[c];
             }
-            return NONE;
-        }
-
-        private int faceAmongInterfaces(int c, long word, int depth) {
-            for (int j = 0; j < units[c].interfaceCount; j++) {
-                int t = faceFrom(interfaceOf(c, j), word, depth);
-                if (t != NONE) {
-                    return t;
-                }
-            }
-            return NONE;
+            return t;
         }
 
         private int faceFrom(int c, long word, int depth) {
@@ -1058,14 +1052,22 @@ public final class PackageRules {
                 return NONE;
             }
             seen = with(seen, c);
-            return units[c].hasMethod(word) ? c : faceAmongInterfaces(c, word, depth + 1);
+            if (units[c].hasMethod(word)) {
+                return c;
+            }
+            int t = NONE;
+            for (int j = 0; j < units[c].interfaceCount && t == NONE; j++) {
+                t = faceFrom(interfaceOf(c, j), word, depth + 1);
+            }
+            return t;
         }
 
         /** Finds the heads of the slices; answers how many slices there are. */
         int cutSlices(int depth) {
             int n = 0;
             for (int c = 0; c < count; c++) {
-                heads[c] = headOf(c, depth);
+                sliceNames[c] = Texts.firstWords(units[c].ownName, depth);
+                heads[c] = headOf(c);
                 if (heads[c] == c) {
                     n++;
                 }
@@ -1073,13 +1075,12 @@ public final class PackageRules {
             return n;
         }
 
-        private int headOf(int c, int depth) {
-            long slice = Texts.firstWords(units[c].ownName, depth);
-            if (slice == Texts.EMPTY) {
+        private int headOf(int c) {
+            if (sliceNames[c] == Texts.EMPTY) {
                 return NONE;
             }
             for (int b = 0; b < c; b++) {
-                if (Texts.firstWords(units[b].ownName, depth) == slice) {
+                if (sliceNames[b] == sliceNames[c]) {
                     return b;
                 }
             }
