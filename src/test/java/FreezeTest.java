@@ -64,6 +64,15 @@ final class FreezeTest {
         check.due("another class", x.violations(0), 2);
         check.due("another class, first", x.violation(0, 0), 64);
         check.due("another class, second", x.violation(0, 1), 65);
+        check.due("freeze of the other class", x.freeze(0), 2);
+        check.due("freeze of the other class: none new", x.violations(0), 0);
+        new UnitMaker("A").method("m", 1).get("B", "f").use(UnitMaker.NEW, "B").loadInto(x);
+        check.due("the first class is new now", x.violation(0, 1), 1);
+        check.due("the first class is new now, alone", x.violations(0), 2);
+        new UnitMaker("C").loadInto(x);
+        check.due("freeze of the first class", x.freeze(0), 2);
+        new UnitMaker("A").loadInto(x);
+        new UnitMaker("C").method("m", 1).get("B", "f").use(UnitMaker.NEW, "B").loadInto(x);
         new UnitMaker("A").method("m", 1).get("B", "f").use(UnitMaker.NEW, "B").loadInto(x);
         check.due("what was known is known again", x.violation(0, 0), 64);
     }

@@ -16,6 +16,7 @@ final class ReadingTest {
         switches();
         wides();
         codeEnds();
+        twoFaults();
         check.end();
     }
 
@@ -103,8 +104,8 @@ final class ReadingTest {
         fault("two spans", -1, 197, 6, 3, 1, 1, 1, 1, 'A', 3, 1, 1, 7, 3, 6, 0, 0, 0, 0);
         // A former unit had a class at the number that is now the second one of a span.
         PackageRules x = new PackageRules();
-        check.due("first", UnitMaker.load(x, 197, 3, 1, 1, 'A', 7, 1, 7, 1, 2, 0, 0, 0, 0), 0);
-        check.due("then", UnitMaker.load(x, 197, 3, 1, 1, 'A', 3, 0, 0, 3, 0, 0, 0, 0), -9);
+        check.due("first", UnitMaker.load(x, 197, 3, 1, 2, 'A', 'B', 7, 1, 7, 1, 2, 0, 0, 0, 0), 0);
+        check.due("then", UnitMaker.load(x, 197, 4, 1, 1, 'A', 3, 0, 0, 7, 1, 3, 0, 0, 0, 0), -11);
         check.due("a number above n", UnitMaker.load(x, 197, 2, 1, 1, 'A', 7, 1, 3, 0, 0, 0, 0), -8);
     }
 
@@ -241,5 +242,19 @@ final class ReadingTest {
         fault("an instruction that the unit ends in", CODE_AT + 2, longer);
         int[] followed = join(CONSTANTS, 2, 0, 0, 0, 2, 3, 9, 1, 16, 3, 9, 0);
         fault("an end in the first of two codes", CODE_AT + 1, followed);
+    }
+
+    /** The first fault from the left is told, though what follows it could be read on to another one. */
+    private static void twoFaults() {
+        fault("padding, then an instruction", CODE_AT + 1, withCode(170, 16, 0, 0, 99));
+        fault("a count, then an instruction", CODE_AT + 4, withCode(170, 0, 0, 0, 16, 0, 99));
+        fault("a way, then an instruction", CODE_AT + 5, withCode(170, 0, 0, 0, 1, 25, 0, 99));
+        fault("a wide instruction, then another", CODE_AT + 1, withCode(196, 16, 0, 99));
+        fault("a number, then an instruction", CODE_AT + 1, withCode(187, 9, 99));
+        fault("a number, then a byte behind the unit", CODE_AT + 1, join(withCode(187, 9), 0));
+        fault("a text's character, then a tag", 5, 197, 3, 1, 2, 'a', '1', 99);
+        fault("a text's length, then a tag", 3, 197, 3, 1, 0, 99);
+        fault("SUPER, then an interface", CONSTANTS.length + 1, join(CONSTANTS, 2, 1, 1, 1, 9));
+        fault("a field's word, then a method's", CONSTANTS.length + 4, join(CONSTANTS, 2, 0, 0, 1, 2, 1, 2));
     }
 }

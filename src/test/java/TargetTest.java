@@ -10,6 +10,9 @@ final class TargetTest {
         methodOrder();
         circles();
         manyWays();
+        lastRows();
+        longChain();
+        staleUnits();
         wrongNumbers();
         check.end();
     }
@@ -158,6 +161,46 @@ final class TargetTest {
         new UnitMaker("c.l").method("w").loadInto(x);
         check.due("method in the last", x.target(0, 5), 11);
         check.due("no field", x.target(0, 4), -1);
+    }
+
+    /** The last of three interfaces, four fields and four methods counts as the first does. */
+    private static void lastRows() {
+        PackageRules x = user();
+        new UnitMaker("C").with("Y", "Z", "I").loadInto(x);
+        new UnitMaker("I").field("a").field("b").field("c").field("w").method("a").method("b").method("c").method("w")
+                .loadInto(x);
+        check.due("the fourth field of the third interface", x.target(0, 0), 2);
+        check.due("the fourth method of the third interface", x.target(0, 1), 2);
+        new UnitMaker("I").with("Y", "Z", "I").loadInto(x);
+        check.due("a circle over the third interface", x.circular(2), true);
+    }
+
+    private static void longChain() {
+        PackageRules x = new PackageRules();
+        for (int i = 0; i < 11; i++) {
+            new UnitMaker("" + (char) ('a' + i)).extending("" + (char) ('b' + i))
+                    .method("m").get("a", "w").call("a", "w").loadInto(x);
+        }
+        new UnitMaker("l").field("w").method("w").loadInto(x);
+        check.due("a field in the twelfth", x.target(0, 1), 11);
+        check.due("a method in the twelfth", x.target(0, 2), 11);
+    }
+
+    /** Nothing of a unit that was there before, or was faulty, is left in one that is read later. */
+    private static void staleUnits() {
+        PackageRules x = user();
+        new UnitMaker("S").field("w").method("w").loadInto(x);
+        UnitMaker rich = new UnitMaker("C").extending("S").with("S", "S", "S").field("w").method("w");
+        rich.loadInto(x);
+        for (int i = 0; i < 3; i++) {
+            new UnitMaker("C").loadInto(x);
+            check.due("the field is gone", x.target(0, 0), -1);
+            check.due("the method is gone", x.target(0, 1), -1);
+            int[] faulty = rich.bytes();
+            faulty[faulty.length - 1] = 1;
+            check.due("a faulty unit", UnitMaker.load(x, faulty), -1 - faulty.length);
+            check.due("the field is still gone", x.target(0, 0), -1);
+        }
     }
 
     private static void wrongNumbers() {
