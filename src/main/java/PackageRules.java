@@ -897,7 +897,7 @@ public final class PackageRules {
         private int count;
         /** The unit that is read next: a faulty one must leave the classes as they are. */
         private Unit spare;
-        /** The classes that SUPER and INTERFACES name, NONE for those not loaded: found anew at each load, as any may change. */
+        /** The classes that SUPER and INTERFACES name, NONE for those not loaded; a load may change them for any class. */
         private final int[] supers;
         private final int[] interfaces;
         private final int[] ancestors;

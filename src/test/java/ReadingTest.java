@@ -157,6 +157,11 @@ final class ReadingTest {
         fault("a method that is a name", at + 2, join(start, 0, 1, 3, 0, 0));
         fault("a method that is a class", at + 2, join(start, 0, 1, 2, 0, 0));
         fault("a method 0", at + 2, join(start, 0, 1, 0, 0, 0));
+        for (String text : new String[] {".", ".a", "a.", "a.b"}) {
+            int[] words = join(new int[] {197, 3, 1, 1, 'A', 7, 1, 1, text.length()}, text.chars().toArray());
+            fault("a field that is no word: " + text, words.length + 4, join(words, 2, 0, 0, 1, 3, 0));
+            fault("a method that is no word: " + text, words.length + 5, join(words, 2, 0, 0, 0, 1, 3, 0, 0));
+        }
         fault("a code of 24", -1, join(join(start, 0, 1, 1, 0, 24), new int[24]));
         fault("a code of 25", at + 4, join(join(start, 0, 1, 1, 0, 25), new int[25]));
     }

@@ -184,6 +184,15 @@ final class TargetTest {
         new UnitMaker("l").field("w").method("w").loadInto(x);
         check.due("a field in the twelfth", x.target(0, 1), 11);
         check.due("a method in the twelfth", x.target(0, 2), 11);
+
+        PackageRules y = new PackageRules();
+        for (int i = 0; i < 11; i++) {
+            new UnitMaker("" + (char) ('a' + i)).with("" + (char) ('b' + i))
+                    .method("m").get("a", "w").call("a", "w").loadInto(y);
+        }
+        new UnitMaker("l").field("w").method("w").loadInto(y);
+        check.due("a field in the twelfth, over interfaces", y.target(0, 1), 11);
+        check.due("a method in the twelfth, over interfaces", y.target(0, 2), 11);
     }
 
     /** Nothing of a unit that was there before, or was faulty, is left in one that is read later. */
