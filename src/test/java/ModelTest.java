@@ -97,9 +97,12 @@ final class ModelTest {
         }
     }
 
+    /** What is answered behind the last call that the document promises is free. */
     private void due(String call, long got, long want) {
         calls++;
-        check.due("run " + run + ", call " + calls + ": " + call, got, want);
+        if (calls <= CALLS) {
+            check.due("run " + run + ", call " + calls + ": " + call, got, want);
+        }
     }
 
     private void due(String call, boolean got, boolean want) {

@@ -45,12 +45,9 @@ final class RoomTest {
         x.rule(2, 0, 1);
         x.rule(3, 1, 0);
         for (int[] unit : UNITS) {
-            for (int b : unit) {
-                x.put(b, 1);
-            }
-            x.load();
+            UnitMaker.load(x, unit);
         }
-        for (int i = 0; i < 50; i++) {
+        for (int i = 0; i < 18; i++) {
             for (int r = 0; r < 4; r++) {
                 x.violations(r);
                 x.violation(r, i);
