@@ -316,13 +316,24 @@ final class TargetEdgesTest {
         };
         for (UnitMaker first : before) {
             for (UnitMaker second : behind) {
-                PackageRules x = user();
-                new UnitMaker("S").field("w").method("w").loadInto(x);
-                first.loadInto(x);
-                second.loadInto(x);
-                targets("nothing of the unit before", x, -1, -1);
-                check.due("no circle of the unit before", x.circular(2), false);
+                nothingLeft(first, second);
             }
+        }
+    }
+
+    /** Asked of C itself, and of D, whose interface C is; the later unit is loaded twice, as rows may be used again. */
+    private static void nothingLeft(UnitMaker first, UnitMaker second) {
+        PackageRules x = new PackageRules();
+        new UnitMaker("U").method("u").get("C", "w").get("D", "w").call("C", "w").call("D", "w").loadInto(x);
+        new UnitMaker("S").field("w").method("w").loadInto(x);
+        new UnitMaker("D").with("C").loadInto(x);
+        first.loadInto(x);
+        for (int times = 1; times <= 2; times++) {
+            second.loadInto(x);
+            for (int i = 0; i < 4; i++) {
+                check.due("nothing of the unit before: target(0, " + i + ")", x.target(0, i), -1);
+            }
+            check.due("no circle of the unit before", x.circular(3), false);
         }
     }
 
