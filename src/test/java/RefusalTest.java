@@ -1,3 +1,4 @@
+import java.util.Arrays;
 import java.util.List;
 import java.util.function.Supplier;
 
@@ -21,6 +22,8 @@ final class RefusalTest {
         for (int wrong : new int[] {-1, 12, 64, Integer.MIN_VALUE, Integer.MAX_VALUE}) {
             compare("some", Scenes::some, anywhere(wrong));
             compare("some", Scenes::some, withoutNumber(wrong));
+            compare("family", Scenes::family, anywhere(wrong));
+            compare("family", Scenes::family, withoutNumber(wrong));
             compare("full", Scenes::full, anywhere(wrong));
             compare("full", Scenes::full, withoutNumber(wrong));
         }
@@ -137,8 +140,11 @@ final class RefusalTest {
         for (int length = 0; length < replacing.length; length++) {
             PackageRules x = Scenes.some();
             x.load();
-            check.due("some: faulty", UnitMaker.load(x, java.util.Arrays.copyOf(replacing, length)), -1 - length);
+            check.due("some: faulty", UnitMaker.load(x, Arrays.copyOf(replacing, length)), -1 - length);
             same("some behind a unit cut at " + length, want, Scenes.look(x));
+        }
+        for (String name : new String[] {"f.A", "f.B", "f.J", "g.C", "h.D"}) {
+            faultyInFamily(new UnitMaker(name).extending("f.I").with("g.C").field("q").method("j").bytes());
         }
         PackageRules full = Scenes.full();
         full.load();
@@ -147,8 +153,20 @@ final class RefusalTest {
             PackageRules x = Scenes.full();
             x.load();
             int due = length == other.length ? -1000 : -1 - length;
-            check.due("full: refused", UnitMaker.load(x, java.util.Arrays.copyOf(other, length)), due);
+            check.due("full: refused", UnitMaker.load(x, Arrays.copyOf(other, length)), due);
             same("full behind a unit cut at " + length, want, Scenes.look(x));
         }
+    }
+
+    private static void faultyInFamily(int[] unit) {
+        List<String> want = Scenes.look(Scenes.family());
+        for (int length = 0; length < unit.length; length++) {
+            PackageRules x = Scenes.family();
+            check.due("family: faulty", UnitMaker.load(x, Arrays.copyOf(unit, length)), -1 - length);
+            same("family behind a unit cut at " + length, want, Scenes.look(x));
+        }
+        PackageRules x = Scenes.family();
+        check.due("family: a byte behind", UnitMaker.load(x, Bytes.join(unit, 0)), -1 - unit.length);
+        same("family behind a unit with a byte behind", want, Scenes.look(x));
     }
 }

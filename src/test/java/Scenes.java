@@ -38,6 +38,23 @@ final class Scenes {
         return new UnitMaker("o.A").extending("s.A").method("m", 3).get("s.A", "w").use(UnitMaker.NEW, "b.B");
     }
 
+    /** Targets that are found over SUPER, interfaces and both, from the first class and from the last. */
+    static PackageRules family() {
+        PackageRules x = new PackageRules();
+        UnitMaker.pattern(x, "f.*");
+        UnitMaker.pattern(x, "u");
+        x.rule(2, 0, 1);
+        new UnitMaker("f.A").extending("f.B").with("f.I", "f.J").method("a").get("f.A", "p").get("f.A", "q")
+                .call("f.A", "b").call("f.A", "j").loadInto(x);
+        new UnitMaker("f.B").with("f.J").field("q").method("b").loadInto(x);
+        new UnitMaker("f.I").with("f.J").field("i").loadInto(x);
+        new UnitMaker("f.J").field("p").method("j").loadInto(x);
+        x.freeze(0);
+        new UnitMaker("g.C").extending("f.A").method("c").get("g.C", "i").get("g.C", "q").call("g.C", "a")
+                .call("g.C", "j").call("f.J", "j").loadInto(x);
+        return x;
+    }
+
     /** Full: 12 classes, 6 patterns, 6 rules, a list of 8, more than 8 violations, 10 characters, 120 bytes. */
     static PackageRules full() {
         PackageRules x = new PackageRules();

@@ -21,6 +21,7 @@ final class TargetEdgesTest {
         nothingLeft();
         noAccess();
         numbers();
+        manyAccesses();
         check.end();
     }
 
@@ -364,5 +365,24 @@ final class TargetEdgesTest {
         new UnitMaker("U").method("u").get("C", "w").loadInto(x);
         check.due("target(0, 0)", x.target(0, 0), 1);
         check.due("target(0, 1), gone", x.target(0, 1), -1);
+    }
+
+    /** As many accesses as 120 bytes hold: four methods A that call A.A 12, 12, 12 and 10 times. */
+    private static void manyAccesses() {
+        check.sentence("The target of occurrence i of class c; -1 if there is none, it is no access, or there is no such occurrence.");
+        int[] unit = {197, 3, 1, 1, 'A', 7, 1, 10, 2, 1, 2, 0, 0, 0, 4};
+        for (int m = 0; m < 4; m++) {
+            int calls = m < 3 ? 12 : 10;
+            unit = Bytes.join(Bytes.join(unit, 1, m, 2 * calls), Bytes.times(calls, UnitMaker.CALL, 3));
+        }
+        PackageRules x = new PackageRules();
+        check.due("load of " + unit.length + " bytes", UnitMaker.load(x, unit), 0);
+        check.due("occurrences(0)", x.occurrences(0), 46);
+        for (int i = 0; i < 46; i++) {
+            check.due("target(0, " + i + ")", x.target(0, i), 0);
+            check.due("line(0, " + i + ")", x.line(0, i), i / 12);
+        }
+        check.due("target(0, 46)", x.target(0, 46), -1);
+        check.due("line(0, 46)", x.line(0, 46), -1);
     }
 }
